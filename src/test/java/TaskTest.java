@@ -210,7 +210,7 @@ final class TaskTest {
         Check.same("6: equation 3, what 9", x.equation(3, 9), -1);
         Check.same("6: equation -1", x.equation(-1, 0), -1);
         Check.same("6: equation MAX", x.equation(MAX, MAX), -1);
-        // 1 + 3 = 4: only all three together; 2 - 2: two; 1 - 1: one number and C.
+        // All three, then each pair in turn.
         regularIs("134=", 1);
         regularIs("2b3=", 1);
         regularIs("313=", 1);
@@ -246,7 +246,7 @@ final class TaskTest {
         Check.same("7: solution(3, 0)", x.solution(3, 0), -1);
         Check.same("7: solution(3, -1)", x.solution(3, -1), -1);
         Check.same("7: solution(-1, 0)", x.solution(-1, 0), -1);
-        Check.same("7: x - x = .. has none", Check.of("R032e1a1=").solution(0, 0), 20101);
+        Check.same("7: x - y = z", Check.of("R032e1a1=").solution(0, 0), 20101);
         Check.same("7: 10 digits", Check.of("R102e112=").solution(0, 49), 101010);
     }
 
