@@ -84,12 +84,14 @@ final class ActTest {
         Check.same("11: reach(5)", x.reach(5), 0);
         Check.same("11: no colouring", x.number(1, 0), -9);
         Check.same("11: the pin of 1 stays", x.number(1, 1), 1);
+        Check.same("11: reach(1)", x.reach(1), 1);
+        Check.same("11: reach(5) again", x.reach(5), 0);
         Check.same("11: reach(0)", x.reach(0), -2);
         Check.same("11: reach(11)", x.reach(11), -2);
         Check.same("11: reach(MIN)", x.reach(MIN), -2);
         Check.same("11: reach(MAX)", x.reach(MAX), -2);
         Check.same("11: N", x.count(1), 5);
-        Check.same("11: acts", x.count(5), 5);
+        Check.same("11: acts", x.count(5), 7);
         AvoidColours pins = Check.of("R102p031p041p100");
         Check.same("11: reach(3) of 10", pins.reach(3), 4);
         Check.same("11: pins left", pins.count(4), 1);

@@ -193,6 +193,9 @@ final class QuestionTest {
         Check.same("19: the seventh", x.see(1, 2, 0), -4);
         Check.same("19: the seventh out of range", x.see(1, 1, 0), -2);
         Check.same("19: count(6)", x.count(6), 6);
+        AvoidColours ends = new AvoidColours();
+        Check.same("19: see(1, 10, 1)", ends.see(1, 10, 1), 1);
+        Check.same("19: see(10, 1, 0)", ends.see(10, 1, 0), 2);
     }
 
     private static void promise20() {
@@ -222,6 +225,14 @@ final class QuestionTest {
         Check.same("21: 4 is ignored", x.which(0), 2);
         x.reach(4);
         Check.same("21: 4 counts now", x.which(0), 0);
+        AvoidColours alike = Check.of("R032");
+        alike.see(4, 1, 1);
+        alike.see(10, 9, 1);
+        Check.same("21: 4 and 10 are ignored", alike.which(0), 8);
+        alike.reach(4);
+        Check.same("21: 4 is as 1", alike.which(0), 8);
+        alike.reach(10);
+        Check.same("21: 10 is as 9", alike.which(0), 256);
         Check.same("21: none", x.which(1), -9);
         Check.text(x, "R103");
         x.task();

@@ -48,6 +48,8 @@ final class ShareTest {
         AvoidColours four = Check.of("R012e112=e112=e112=e112=");
         shareIs(four, 3, 1, 2);
         shareIs(Check.of("R103e112=e112=e112=e112="), 0, 59049, 4);
+        // 300 of the colourings of 1 to 10 in three colours are valid.
+        shareIs(Check.of("R103e111="), 0, 59049 - 300, 1);
         Check.same("22: no act", x.count(5), 1);
     }
 

@@ -59,6 +59,10 @@ final class TaskTest {
         Check.same("3: count(0)", x.count(0), 0);
         Check.same("3: the task stays", x.count(1), 5);
         Check.same("3: write after", x.write('R'), 1);
+        Check.same("3: what stood there is gone", x.fault(), 1);
+        x.write('0');
+        x.write('5');
+        Check.same("3: the rest is gone too", x.fault(), 3);
     }
 
     private static void faultOf(String letters, int due) {
@@ -189,6 +193,13 @@ final class TaskTest {
         x.go(3);
         Check.same("5: task() once more", x.task(), 22);
         Check.same("5: ask(1) once more", x.ask(1), 0);
+        String[] sums = {"e111=", "e1a1=", "ea11=", "eaaa=", "e222="};
+        for (String sum : sums) {
+            Check.text(x, "R103" + sum);
+            Check.same("5: task() with " + sum, x.task(), 300);
+            Check.text(x, "R043e112!");
+            Check.same("5: task() between", x.task(), 66);
+        }
         Check.text(x, "R052e111=");
         Check.same("5: task() without colourings", x.task(), 0);
         Check.same("5: number(1, 0)", x.number(1, 0), -9);
@@ -247,6 +258,8 @@ final class TaskTest {
         Check.same("7: solution(3, -1)", x.solution(3, -1), -1);
         Check.same("7: solution(-1, 0)", x.solution(-1, 0), -1);
         Check.same("7: x - y = z", Check.of("R032e1a1=").solution(0, 0), 20101);
+        Check.same("6: solutions up to 10", Check.of("R102e111=").equation(0, 5), 45);
+        Check.same("6: with 10 as x", Check.of("R102e1d1=").equation(0, 5), 8);
         Check.same("7: 10 digits", Check.of("R102e112=").solution(0, 49), 101010);
     }
 
@@ -267,6 +280,15 @@ final class TaskTest {
         Check.same("8: number(5, 9)", x.number(5, 9), -1);
         Check.same("8: number(0, 0)", x.number(0, 0), -1);
         Check.same("8: number(MIN, 0)", x.number(MIN, 0), -1);
+        Check.same("6: with 10 as y", Check.of("R102ed11=").equation(0, 5), 8);
+        Check.same("6: apart, x is z", Check.of("R022e3a1!").equation(0, 5), 0);
+        Check.same("6: apart, y is z", Check.of("R022ea31!").equation(0, 5), 0);
+        Check.same("6: apart, x is y", Check.of("R022e112!").equation(0, 5), 0);
+        AvoidColours ten = Check.of("R103e111=p102");
+        Check.same("8: number(10, 1)", ten.number(10, 1), 2);
+        Check.same("8: number(10, 2)", ten.number(10, 2), 4);
+        Check.same("8: number(10, 3)", ten.number(10, 3), 1);
+        Check.same("8: number(11, 0)", ten.number(11, 0), -1);
         AvoidColours none = Check.of("R052e111=");
         Check.same("8: without colourings, 0", none.number(1, 0), -9);
         Check.same("8: without colourings, 2", none.number(1, 2), 0);
