@@ -812,11 +812,10 @@ public final class AvoidColours {
 
     /** Goes through the colourings of a task, number after number, in lexicographic order. */
     private static final class Walk {
-        /** The ways to name three blocks by colours; those with a bit in TWO keep the third one's name. */
+        /** The ways to name three blocks by colours. They serve two colours too: a block without a pin takes the one left over. */
         private static final int[] NAMES = {0, 1, 2, 0, 2, 1, 1, 0, 2, 1, 2, 0, 2, 0, 1, 2, 1, 0};
         private static final int NAMINGS = 6;
         private static final int ALL = 63;
-        private static final int TWO = 5;
 
         private final Sightings sightings = new Sightings();
         private final Clashes clashes = new Clashes();
@@ -939,7 +938,7 @@ public final class AvoidColours {
         private int countKinds(Task of) {
             begin(of);
             kinds = 0;
-            group(this, 1, 0, task.k == 2 ? TWO : ALL);
+            group(this, 1, 0, ALL);
             return kinds;
         }
 

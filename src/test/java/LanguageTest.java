@@ -22,7 +22,9 @@ final class LanguageTest {
     private static final String[] FORBIDDEN = {
         "\\bthrow\\b", "\\bthrows\\b", "\\btry\\b", "\\bcatch\\b", "\\bsynchronized\\b", "\\bassert\\b", "->", "::",
         "Exact\\s*\\(", "\\bstatic\\s*\\{", "\\bprotected\\b", "^package\\b", "\\bSystem\\.(?!arraycopy)", "\\bRandom\\b",
-        "\\bThread\\b", "\\bequals\\b", "\\bhashCode\\b", "\\btoString\\b", "@", "\\bvar\\b", "\\byield\\b"};
+        "\\bThread\\b", "\\bequals\\b", "\\bhashCode\\b", "\\btoString\\b", "@", "\\bvar\\b", "\\byield\\b", "\"", "\\bdouble\\b", "\\bfloat\\b"};
+    private static final Set<String> LIBRARY = Set.of("Arrays.fill", "Arrays.copyOf", "Arrays.copyOfRange", "System.arraycopy",
+        "Integer.bitCount", "Math.max", "Math.min", "Math.abs", "Math.floorMod", "Math.floorDiv");
 
     private LanguageTest() {
     }
@@ -78,16 +80,24 @@ final class LanguageTest {
         for (Method m : AvoidColours.class.getDeclaredMethods()) {
             Check.yes("a name of its own: " + m, Modifier.isPublic(m.getModifiers()) || !names.contains(m.getName()));
         }
+        staticFields(AvoidColours.class);
         Class<?>[] inside = AvoidColours.class.getDeclaredClasses();
         Check.yes("at most 12 classes", inside.length <= 11);
         for (Class<?> c : inside) {
             Check.yes("private, static: " + c,
                 Modifier.isStatic(c.getModifiers()) && !Modifier.isPublic(c.getModifiers()));
             Check.yes("at most 20 fields: " + c, c.getDeclaredFields().length <= 20);
+            staticFields(c);
             for (Method m : c.getDeclaredMethods()) {
                 Check.yes("a name of its own: " + m, !names.contains(m.getName()));
                 Check.yes("at most 7 parameters: " + m, m.getParameterCount() <= 7);
             }
+        }
+    }
+
+    private static void staticFields(Class<?> c) {
+        for (Field f : c.getDeclaredFields()) {
+            Check.yes("final, if static: " + f, Modifier.isFinal(f.getModifiers()) || !Modifier.isStatic(f.getModifiers()));
         }
     }
 
@@ -101,9 +111,9 @@ final class LanguageTest {
         while (imports.find()) {
             Check.yes("import " + imports.group(1), imports.group(1).equals("java.util.Arrays"));
         }
-        Matcher arrays = Pattern.compile("\\bArrays\\.(\\w+)").matcher(code);
-        while (arrays.find()) {
-            Check.yes("Arrays." + arrays.group(1), Set.of("fill", "copyOf", "copyOfRange").contains(arrays.group(1)));
+        Matcher library = Pattern.compile("\\b(Arrays|System|Integer|Long|Math)\\.\\w+").matcher(code);
+        while (library.find()) {
+            Check.yes("the library's " + library.group(), LIBRARY.contains(library.group()));
         }
         Check.yes("signs 1 to 126", text.chars().allMatch(sign -> sign >= 1 && sign < 127));
         shortMethods(text);

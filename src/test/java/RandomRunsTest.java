@@ -4,11 +4,15 @@ import java.util.Random;
 final class RandomRunsTest {
     private static final int[] ODD = {Integer.MIN_VALUE, -5, -1, 0, 1, 2, 3, 4, 9, 10, 11, 99, 256, Integer.MAX_VALUE};
 
+    /** What an object answers after its 512th call is free; a text takes many calls at once. */
+    private static final int MOST_CALLS = 512, MOST_AT_ONCE = 50;
+
     private final Random random;
     private final int mostN;
     private final AvoidColours fast = new AvoidColours();
     private final Slow slow = new Slow();
     private String call = "";
+    private int used;
 
     private RandomRunsTest(long start, int mostN) {
         random = new Random(start);
@@ -16,7 +20,7 @@ final class RandomRunsTest {
     }
 
     public static void main(String[] args) {
-        int runs = args.length > 0 ? Integer.parseInt(args[0]) : 400;
+        int runs = args.length > 0 ? Integer.parseInt(args[0]) : 600;
         for (int run = 0; run < runs; run++) {
             int calls = run % 20 == 0 ? 60 : 512;
             new RandomRunsTest(run, run % 20 == 0 ? 10 : 3 + run % 5).go(run, calls);
@@ -25,8 +29,9 @@ final class RandomRunsTest {
     }
 
     private void go(int run, int calls) {
-        for (int i = 0; i < calls; i++) {
+        for (int i = 0; i < calls && used < MOST_CALLS - MOST_AT_ONCE; i++) {
             int method = random.nextInt(40);
+            used++;
             long[] both = random.nextInt(12) == 0 ? oddCall(method) : call(method);
             Check.same("random run " + run + ", call " + i + ": " + call, both[0], both[1]);
         }
@@ -193,6 +198,7 @@ final class RandomRunsTest {
             case 14:
                 return both("lost(" + a + ", true)", fast.lost(a, true), slow.lost(a, true));
             default:
+                used += 3;
                 return both("drawn " + a, fast.drawn(a) + 100L * fast.keep(b) + 10000L * fast.again(c) + 1000000L * fast.count(d),
                     slow.drawn(a) + 100L * slow.keep(b) + 10000L * slow.again(c) + 1000000L * slow.count(d));
         }
@@ -241,10 +247,12 @@ final class RandomRunsTest {
         long a = 0;
         long b = 0;
         for (char letter : text.toCharArray()) {
-            a = 3 * a + fast.write(letter) + fast.fault();
-            b = 3 * b + slow.write(letter) + slow.fault();
+            used++;
+            a = 3 * a + fast.write(letter);
+            b = 3 * b + slow.write(letter);
         }
-        return both("the text " + text, a, b);
+        used++;
+        return both("the text " + text, 100 * a + fast.fault(), 100 * b + slow.fault());
     }
 
     private String randomText() {

@@ -167,8 +167,8 @@ final class ShareTest {
             Check.same("26: two differs", one == two ? 1 : 0, 0);
         }
         // 1 + 2 = 3 apart: 3 is pinned, so it fails exactly if 1 and 2 both took its colour.
-        AvoidColours z = Check.of("R033e111!p032");
         for (long seed = -200; seed < 200; seed++) {
+            AvoidColours z = Check.of("R033e111!p032");
             int one = (int) ((after(seed, 1) >>> 33) % 3);
             int two = (int) ((after(seed, 2) >>> 33) % 3);
             z.seed(seed);
