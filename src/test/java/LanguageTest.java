@@ -22,7 +22,8 @@ final class LanguageTest {
     private static final String[] FORBIDDEN = {
         "\\bthrow\\b", "\\bthrows\\b", "\\btry\\b", "\\bcatch\\b", "\\bsynchronized\\b", "\\bassert\\b", "->", "::",
         "Exact\\s*\\(", "\\bstatic\\s*\\{", "\\bprotected\\b", "^package\\b", "\\bSystem\\.(?!arraycopy)", "\\bRandom\\b",
-        "\\bThread\\b", "\\bequals\\b", "\\bhashCode\\b", "\\btoString\\b", "@", "\\bvar\\b", "\\byield\\b", "\"", "\\bdouble\\b", "\\bfloat\\b"};
+        "\\bThread\\b", "\\bequals\\b", "\\bhashCode\\b", "\\btoString\\b", "@", "\\bvar\\b", "\\byield\\b",
+        "\"", "\\bdouble\\b", "\\bfloat\\b"};
     private static final Set<String> LIBRARY = Set.of("Arrays.fill", "Arrays.copyOf", "Arrays.copyOfRange", "System.arraycopy",
         "Integer.bitCount", "Math.max", "Math.min", "Math.abs", "Math.floorMod", "Math.floorDiv");
 

@@ -130,7 +130,8 @@ final class RandomRunsTest {
                 int was = below(2);
                 return both("see(" + a + ", " + b + ", " + was + ")", fast.see(a, b, was), slow.see(a, b, was));
             case 31:
-                return below(3) != 0 ? both("count(6)", fast.count(6), slow.count(6)) : both("unsee()", fast.unsee(), slow.unsee());
+                return below(3) != 0 ? both("count(6)", fast.count(6), slow.count(6))
+                    : both("unsee()", fast.unsee(), slow.unsee());
             case 32:
                 int what = below(2);
                 return both("which(" + what + ")", fast.which(what), slow.which(what));
