@@ -812,7 +812,10 @@ public final class AvoidColours {
 
     /** Goes through the colourings of a task, number after number, in lexicographic order. */
     private static final class Walk {
-        /** The ways to name three blocks by colours. They serve two colours too: a block without a pin takes the one left over. */
+        /**
+         * The ways to name three blocks by colours. They serve two colours too:
+         * a block without a pin takes the one left over.
+         */
         private static final int[] NAMES = {0, 1, 2, 0, 2, 1, 1, 0, 2, 1, 2, 0, 2, 0, 1, 2, 1, 0};
         private static final int NAMINGS = 6;
         private static final int ALL = 63;
